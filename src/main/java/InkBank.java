@@ -331,13 +331,19 @@ public final class InkBank {
     /** Executes the program in the buffer, empties the buffer and returns the number of commands. */
     public int execute() throws IllegalArgumentException, IllegalStateException {
         int commands = reader.countCommands();
-        int end = reader.position;
-        int obeyed = obeyInTrial(commands);
-        reader.length = 0;
         if (commands < 0) {
-            malformedAt = end;
+            malformedAt = reader.position;
+            reader.length = 0;
             throw new IllegalArgumentException();
         }
+        int obeyed = 0;
+        trial.copyFrom(now);
+        reader.position = 0;
+        while (obeyed < commands && reader.readCommand() && trial.obey(reader.verb, reader.values) == NO_FAULT) {
+            obeyed++;
+            reader.position++; // past the ";"
+        }
+        reader.length = 0;
         if (obeyed < commands) {
             failedAt = obeyed;
             throw new IllegalStateException();
@@ -440,19 +446,6 @@ public final class InkBank {
         for (int slot = 0; slot < transfers.count; slot++) {
             sums[transfers.senders[slot]][transfers.receivers[slot]] += transfers.amounts[slot];
         }
-    }
-
-    /** Returns how many of the commands were obeyed before one failed: all if none did. */
-    private int obeyInTrial(int commands) {
-        trial.copyFrom(now);
-        reader.position = 0;
-        for (int command = 0; command < commands; command++) {
-            if (!reader.readCommand() || trial.obey(reader.verb, reader.values) != NO_FAULT) {
-                return command;
-            }
-            reader.position++; // past the ";"
-        }
-        return commands;
     }
 
     private static boolean isIn(int value, int least, int most) {
@@ -702,7 +695,7 @@ public final class InkBank {
 
         void copyFrom(Accounts other) {
             count = other.count;
-            for (int account = 0; account < MAX_ACCOUNTS; account++) {
+            for (int account = 0; account < count; account++) {
                 kinds[account] = other.kinds[account];
                 balances[account] = other.balances[account];
                 limits[account] = other.limits[account];
@@ -810,7 +803,7 @@ public final class InkBank {
         void copyFrom(Transfers other) {
             count = other.count;
             nextId = other.nextId;
-            for (int slot = 0; slot < MAX_TRANSFERS; slot++) {
+            for (int slot = 0; slot < count; slot++) {
                 copySlot(other, slot, slot);
             }
         }

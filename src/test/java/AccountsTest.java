@@ -21,6 +21,7 @@ public final class AccountsTest {
         interestOfVault();
         ranks();
         means();
+        eightAccounts();
         Check.finish("AccountsTest");
     }
 
@@ -144,8 +145,10 @@ public final class AccountsTest {
     /** Checks the interest of an account with a balance that is reached from an empty one. */
     private static void interest(int kind, int balance, int due) {
         InkBank bank = Banks.with(kind);
-        if (balance < 0) {
+        if (kind == InkBank.CURRENT || kind == InkBank.QUILL) {
             bank.setLimit(0, 500);
+        }
+        if (balance < 0) {
             bank.withdraw(0, -balance);
         } else {
             Banks.fill(bank, 0, balance);
@@ -232,6 +235,7 @@ public final class AccountsTest {
         InkBank bank = new InkBank();
         Check.fails("mean of none", ArithmeticException.class, bank::meanBalance);
         bank.open(InkBank.CURRENT);
+        Check.same("mean of one", bank.meanBalance(), 0.0);
         bank.open(InkBank.QUILL);
         bank.setLimit(1, 100);
         bank.deposit(0, 8);
@@ -239,5 +243,24 @@ public final class AccountsTest {
         Check.same("mean", bank.meanBalance(), 2.5);
         bank.open(InkBank.SAVINGS);
         Check.same("mean of three", bank.meanBalance(), 5.0 / 3.0);
+    }
+
+    private static void eightAccounts() {
+        InkBank bank = Banks.with(0, 0, 0, 0, 0, 0, 0, 0);
+        for (int account = 0; account < 8; account++) {
+            bank.deposit(account, 100 * (account + 1));
+        }
+        bank.withdraw(7, 50);
+        bank.seal(7, 6, 50, 0);
+        bank.seal(6, 0, 1, 1);
+        Check.same("mean of eight", bank.meanBalance(), 443.75);
+        Check.same("sum of eight", bank.totalInk(), 3550L);
+        Check.same("endDays", bank.endDays(1), 1);
+        Check.same("the first", Banks.statement(bank, 0), "C0:101/0");
+        Check.same("the last", Banks.statement(bank, 7), "C7:707/0");
+        Check.same("the greatest", bank.accountAtRank(0), 6);
+        Check.same("the least", bank.accountAtRank(7), 0);
+        Check.same("net of the first", bank.netByTable(0), 1);
+        Check.fails("rank 8", ELEMENT, () -> bank.accountAtRank(8));
     }
 }

@@ -38,10 +38,12 @@ public final class CommandsTest {
         Check.same("limited", bank.limitOf(0), 50);
         Check.same("draw", Banks.run(bank, "draw 0 5"), 1);
         Check.same("drawn", Banks.statement(bank, 0), "C0:-5/50*");
-        Check.same("send", Banks.run(bank, "send 10 20 0;send 01 003 60"), 2);
-        Check.same("sent", Banks.transfers(bank), "0:1>0 20 in 0, 1:0>1 3 in 60");
-        Check.same("void", Banks.run(bank, "void 1"), 1);
-        Check.same("voided", Banks.transfers(bank), "0:1>0 20 in 0");
+        Check.same("send", Banks.run(bank, "send 10 20 0;send 01 003 60;send 01 4 59"), 3);
+        Check.same("sent", Banks.transfers(bank), "0:1>0 20 in 0, 2:0>1 4 in 59, 1:0>1 3 in 60");
+        Check.same("void", Banks.run(bank, "void 2"), 1);
+        Check.same("voided", Banks.transfers(bank), "0:1>0 20 in 0, 1:0>1 3 in 60");
+        Check.same("void another", Banks.run(bank, "void 1"), 1);
+        Check.same("voided another", Banks.transfers(bank), "0:1>0 20 in 0");
         Check.same("wait", Banks.run(bank, "wait 2"), 1);
         Check.same("waited", bank.day(), 2);
         Check.same("moved", bank.balanceOf(0), 15);
@@ -104,6 +106,8 @@ public final class CommandsTest {
         malformedAt("wait 1 ", 6);
         malformedAt("wait ;", 5);
         malformedAt("pay 0 1;pay 0 1;pay 0 1;pay 0 1;pay 0 1;pay 0 1;pay 0 1;void", 60);
+        malformedAt("pay 0 123;pay 0 123;pay 0 123;pay 0 123;pay 0 123;pay 0 123;", 60);
+        malformedAt("pay 0 123;pay 0 123;pay 0 123;pay 0 123;pay 0 12;send 01 12 ", 60);
     }
 
     private static void failsAt(String text, int command) {

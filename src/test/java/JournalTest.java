@@ -49,6 +49,21 @@ public final class JournalTest {
             Check.same("kind", bank.movementKind(0), 'd');
         }
         Check.same("oldest", bank.movementAmount(9), 14);
+        String full = Banks.journal(bank);
+        bank.save();
+        for (int i = 0; i < 4; i++) {
+            bank.deposit(0, 100);
+        }
+        for (int i = 0; i < 4; i++) {
+            bank.undo();
+        }
+        Check.same("undone", Banks.journal(bank), full);
+        bank.endDays(1);
+        for (int i = 0; i < 12; i++) {
+            bank.deposit(0, 100);
+        }
+        bank.restore();
+        Check.same("restored", Banks.journal(bank), full);
         for (int wrong : new int[] {10, -1, Integer.MIN_VALUE, Integer.MAX_VALUE}) {
             Check.fails("movementKind", ELEMENT, () -> bank.movementKind(wrong));
             Check.fails("movementAmount", ELEMENT, () -> bank.movementAmount(wrong));

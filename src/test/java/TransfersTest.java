@@ -135,6 +135,12 @@ public final class TransfersTest {
         Check.same("and what is left", bank.wouldBounce(3), false);
         Check.same("executed", bank.endDays(2), 5);
         Check.same("bounceCount", bank.bounceCount(), 1);
+        // On day 2 account 0 has 106, and 3 more each day.
+        int early = bank.seal(0, 1, 115, 2);
+        int late = bank.seal(0, 1, 115, 3);
+        Check.same("a day too early", bank.wouldBounce(early), true);
+        bank.cancel(early);
+        Check.same("just covered", bank.wouldBounce(late), false);
     }
 
     private static void net(InkBank bank, int account, int due) {
@@ -167,19 +173,24 @@ public final class TransfersTest {
     private static void leading() {
         InkBank bank = Banks.with(0, 0, 0, 0, 0, 0, 0, 0);
         // Each step is sealed ahead of the one that leads to it.
+        int back = bank.seal(7, 0, 1, 1);
         for (int from = 6; from >= 0; from--) {
             bank.seal(from, from + 1, 1, 1);
         }
+        Check.same("a ring leads back", bank.leadsTo(0, 0), true);
+        Check.same("a ring leads round", bank.leadsTo(5, 4), true);
+        bank.cancel(back);
         for (int from = 0; from < 8; from++) {
             for (int to = 0; to < 8; to++) {
                 Check.same("leadsTo " + from + " " + to, bank.leadsTo(from, to), from < to);
             }
         }
-        int back = bank.seal(7, 0, 1, 1);
-        Check.same("a ring leads back", bank.leadsTo(0, 0), true);
-        Check.same("a ring leads round", bank.leadsTo(5, 4), true);
-        bank.cancel(back);
-        Check.same("no ring", bank.leadsTo(0, 0), false);
+        bank.seal(7, 6, 1, 1);
+        bank.seal(7, 5, 1, 1);
+        bank.seal(3, 2, 1, 1);
+        Check.same("ten transfers", bank.transferCount(), 10);
+        Check.same("the last of ten leads back", bank.leadsTo(3, 3), true);
+        Check.same("none of ten leads to the first", bank.leadsTo(7, 0), false);
         for (int wrong : new int[] {8, -1, Integer.MIN_VALUE, Integer.MAX_VALUE}) {
             Check.fails("leadsTo", INDEX, () -> bank.leadsTo(wrong, 0));
             Check.fails("leadsTo", INDEX, () -> bank.leadsTo(0, wrong));
