@@ -1,3 +1,6 @@
+import java.util.NoSuchElementException;
+import java.util.function.IntSupplier;
+
 /** What several tests do with a bank. */
 final class Banks {
     private Banks() {
@@ -75,5 +78,34 @@ final class Banks {
                 .append(bank.netOf(account)).append(" rank ").append(bank.accountAtRank(account)).append('\n');
         }
         return text.append(transfers(bank)).append('\n').append(journal(bank)).toString();
+    }
+
+    /** Returns the state and what undo and restore leave alone, but for the buffer, which can't be asked. */
+    static String all(InkBank bank) {
+        StringBuilder text = new StringBuilder(state(bank));
+        text.append('\n').append(bank.accountCount()).append(' ').append(written(bank));
+        text.append(' ').append(numberOr(bank::errorPosition)).append(' ').append(numberOr(bank::failedCommand));
+        return text.toString();
+    }
+
+    /** Returns the statement that was written last. */
+    static String written(InkBank bank) {
+        StringBuilder text = new StringBuilder();
+        try {
+            while (text.length() < 100) {
+                text.append(bank.statementAt(text.length()));
+            }
+        } catch (IndexOutOfBoundsException end) {
+            return text.toString();
+        }
+        return "without end: " + text;
+    }
+
+    private static String numberOr(IntSupplier call) {
+        try {
+            return "" + call.getAsInt();
+        } catch (NoSuchElementException none) {
+            return "none";
+        }
     }
 }

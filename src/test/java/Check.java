@@ -1,7 +1,12 @@
-/** Counts checks; a test's main method ends with finish. */
+import java.lang.reflect.InvocationTargetException;
+import java.lang.reflect.Method;
+import java.util.TreeMap;
+
+/** Counts checks; a test's main method ends with finish, or is runAll alone. */
 final class Check {
     private static int passed = 0;
     private static int failed = 0;
+    private static String running = "";
 
     private Check() {
     }
@@ -11,7 +16,7 @@ final class Check {
             passed++;
         } else {
             failed++;
-            System.out.println(what + " answered " + got + ", due is " + due);
+            System.out.println(running + what + " answered " + got + ", due is " + due);
         }
     }
 
@@ -24,6 +29,39 @@ final class Check {
             got = thrown.getClass();
         }
         same(what, got, due);
+    }
+
+    /** Checks that a call throws just this class and that the bank answers as before. */
+    static void refused(String what, InkBank bank, Class<?> due, Runnable call) {
+        String before = Banks.all(bank);
+        fails(what, due, call);
+        same(what + ", then all answers", Banks.all(bank), before);
+    }
+
+    /** Runs each method of a class whose name begins with "promise" or "terms"; a new one can't be forgotten. */
+    static void runAll(Class<?> tests) throws IllegalAccessException {
+        for (Method test : testsOf(tests).values()) {
+            running = test.getName() + ": ";
+            int checks = passed + failed;
+            try {
+                test.invoke(null);
+            } catch (InvocationTargetException thrown) {
+                same("a call", thrown.getCause(), "an answer");
+            }
+            same("checks something", passed + failed > checks, true);
+        }
+        running = "";
+        finish(tests.getSimpleName());
+    }
+
+    static TreeMap<String, Method> testsOf(Class<?> tests) {
+        TreeMap<String, Method> found = new TreeMap<>();
+        for (Method method : tests.getDeclaredMethods()) {
+            if (method.getName().startsWith("promise") || method.getName().startsWith("terms")) {
+                found.put(method.getName(), method);
+            }
+        }
+        return found;
     }
 
     static void finish(String test) {
