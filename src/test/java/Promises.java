@@ -1,3 +1,6 @@
+import java.util.function.Consumer;
+import java.util.function.Supplier;
+
 /** What the tests share that go through the document sentence by sentence. */
 abstract class Promises {
     static final int CURRENT = InkBank.CURRENT;
@@ -10,6 +13,11 @@ abstract class Promises {
     static final Class<?> STATE = IllegalStateException.class;
     static final Class<?> UNSUPPORTED = UnsupportedOperationException.class;
     static final Class<?> ELEMENT = java.util.NoSuchElementException.class;
+
+    /** A call that asks for an account, a transfer or a movement by its number. */
+    interface Question {
+        Object ask(InkBank bank, int number);
+    }
 
     /** Returns a bank with one account of each of these kinds. */
     static InkBank with(int... kinds) {
@@ -43,5 +51,25 @@ abstract class Promises {
 
     static void refused(String what, InkBank bank, Class<?> due, Runnable call) {
         Check.refused(what, bank, due, call);
+    }
+
+    /** Checks it on a bank of its own: one bank is good for 512 calls, and the check makes many. */
+    static void refused(String what, Supplier<InkBank> made, Class<?> due, Consumer<InkBank> call) {
+        InkBank bank = made.get();
+        Check.refused(what, bank, due, () -> call.accept(bank));
+    }
+
+    /** Checks that a call is refused for each account that doesn't exist, and answered for the eighth. */
+    static void refusedForNoAccount(Question question) {
+        InkBank none = new InkBank();
+        refused("no account at all", none, INDEX, () -> question.ask(none, 0));
+        InkBank two = with(QUILL, QUILL);
+        for (int account : outside(2)) {
+            refused("account " + account + " of two", two, INDEX, () -> question.ask(two, account));
+        }
+        InkBank eight = with(QUILL, QUILL, QUILL, QUILL, QUILL, QUILL, QUILL, QUILL);
+        eight.deposit(7, 1);
+        same("account 7 of eight", question.ask(eight, 7) != null, true);
+        refused("account 8 of eight", eight, INDEX, () -> question.ask(eight, 8));
     }
 }

@@ -1,3 +1,5 @@
+import java.util.function.Supplier;
+
 /** Promises 1 to 14, sentence by sentence: a new object and its accounts. */
 public final class Promises01To14Test extends Promises {
     public static void main(String[] args) throws IllegalAccessException {
@@ -44,11 +46,10 @@ public final class Promises01To14Test extends Promises {
     }
 
     static void promise02_eightAccounts() {
-        InkBank bank = with(0, 1, 2, 3, 0, 1, 2);
-        same("the eighth", bank.open(CURRENT), 7);
+        same("the eighth", with(0, 1, 2, 3, 0, 1, 2).open(CURRENT), 7);
         for (int kind = 0; kind < 4; kind++) {
             int any = kind;
-            refused("the ninth", bank, STATE, () -> bank.open(any));
+            refused("the ninth", () -> with(0, 1, 2, 3, 0, 1, 2, 3), STATE, bank -> bank.open(any));
         }
     }
 
@@ -75,13 +76,7 @@ public final class Promises01To14Test extends Promises {
     }
 
     static void promise03_noSuchAccount() {
-        InkBank bank = with(CURRENT, QUILL);
-        for (int account : outside(2)) {
-            refused("account " + account, bank, INDEX, () -> bank.deposit(account, 1));
-        }
-        refused("account 8", bank, INDEX, () -> bank.deposit(8, 1));
-        InkBank none = new InkBank();
-        refused("no account at all", none, INDEX, () -> none.deposit(0, 1));
+        refusedForNoAccount((bank, account) -> bank.deposit(account, 1));
     }
 
     static void promise03_amountOutOfRange() {
@@ -109,11 +104,11 @@ public final class Promises01To14Test extends Promises {
     }
 
     static void promise03_orderOfExceptions() {
-        InkBank bank = holding(QUILL, 9999);
-        refused("account before amount", bank, INDEX, () -> bank.deposit(1, 0));
-        refused("account before amount", bank, INDEX, () -> bank.deposit(-1, 1000));
-        refused("amount before balance", bank, ARGUMENT, () -> bank.deposit(0, 1000));
-        refused("amount before balance", bank, ARGUMENT, () -> bank.deposit(0, Integer.MAX_VALUE));
+        Supplier<InkBank> full = () -> holding(QUILL, 9999);
+        refused("account before amount", full, INDEX, bank -> bank.deposit(1, 0));
+        refused("account before amount", full, INDEX, bank -> bank.deposit(-1, 1000));
+        refused("amount before balance", full, ARGUMENT, bank -> bank.deposit(0, 1000));
+        refused("amount before balance", full, ARGUMENT, bank -> bank.deposit(0, Integer.MAX_VALUE));
     }
 
     // ---- Promise 4: withdraw
@@ -129,19 +124,12 @@ public final class Promises01To14Test extends Promises {
     }
 
     static void promise04_noSuchAccount() {
-        InkBank bank = with(CURRENT, QUILL);
-        for (int account : outside(2)) {
-            refused("account " + account, bank, INDEX, () -> bank.withdraw(account, 1));
-        }
-        refused("account 8", bank, INDEX, () -> bank.withdraw(8, 1));
-        InkBank none = new InkBank();
-        refused("no account at all", none, INDEX, () -> none.withdraw(0, 1));
+        refusedForNoAccount((bank, account) -> bank.withdraw(account, 1));
     }
 
     static void promise04_amountOutOfRange() {
-        InkBank bank = holding(CURRENT, 5000);
         for (int amount : outside(1, 999)) {
-            refused("amount " + amount, bank, ARGUMENT, () -> bank.withdraw(0, amount));
+            refused("amount " + amount, () -> holding(CURRENT, 5000), ARGUMENT, bank -> bank.withdraw(0, amount));
         }
     }
 
@@ -184,13 +172,7 @@ public final class Promises01To14Test extends Promises {
     }
 
     static void promise05_noSuchAccount() {
-        InkBank bank = with(CURRENT, QUILL);
-        for (int account : outside(2)) {
-            refused("account " + account, bank, INDEX, () -> bank.setLimit(account, 1));
-        }
-        refused("account 8", bank, INDEX, () -> bank.setLimit(8, 1));
-        InkBank none = new InkBank();
-        refused("no account at all", none, INDEX, () -> none.setLimit(0, 0));
+        refusedForNoAccount((bank, account) -> bank.setLimit(account, 1));
     }
 
     static void promise05_limitOutOfRange() {
@@ -202,13 +184,13 @@ public final class Promises01To14Test extends Promises {
     }
 
     static void promise05_savingsAccountOrVault() {
-        InkBank bank = with(CURRENT, SAVINGS, QUILL, VAULT);
-        for (int limit : new int[] {0, 1, 500}) {
-            refused("savings account, " + limit, bank, UNSUPPORTED, () -> bank.setLimit(1, limit));
-            refused("vault, " + limit, bank, UNSUPPORTED, () -> bank.setLimit(3, limit));
-        }
+        InkBank bank = with(CURRENT, QUILL);
         same("current account", bank.setLimit(0, 1), 0);
-        same("quill account", bank.setLimit(2, 1), 0);
+        same("quill account", bank.setLimit(1, 1), 0);
+        for (int limit : new int[] {0, 1, 500}) {
+            refused("savings account, " + limit, () -> with(SAVINGS), UNSUPPORTED, savings -> savings.setLimit(0, limit));
+            refused("vault, " + limit, () -> with(VAULT), UNSUPPORTED, vault -> vault.setLimit(0, limit));
+        }
     }
 
     static void promise05_balanceBelowTheNewLimit() {
@@ -254,13 +236,7 @@ public final class Promises01To14Test extends Promises {
     }
 
     static void promise07_noSuchAccount() {
-        InkBank bank = with(VAULT, QUILL);
-        for (int account : outside(2)) {
-            refused("account " + account, bank, INDEX, () -> bank.kindOf(account));
-        }
-        InkBank eight = with(0, 0, 0, 0, 0, 0, 0, 0);
-        same("the last of eight", eight.kindOf(7), CURRENT);
-        refused("account 8 of eight", eight, INDEX, () -> eight.kindOf(8));
+        refusedForNoAccount((bank, account) -> bank.kindOf(account));
     }
 
     // ---- Promise 8: balanceOf
@@ -275,13 +251,7 @@ public final class Promises01To14Test extends Promises {
     }
 
     static void promise08_noSuchAccount() {
-        InkBank bank = with(VAULT, QUILL);
-        for (int account : outside(2)) {
-            refused("account " + account, bank, INDEX, () -> bank.balanceOf(account));
-        }
-        InkBank eight = with(0, 0, 0, 0, 0, 0, 0, 0);
-        same("the last of eight", eight.balanceOf(7), 0);
-        refused("account 8 of eight", eight, INDEX, () -> eight.balanceOf(8));
+        refusedForNoAccount((bank, account) -> bank.balanceOf(account));
     }
 
     // ---- Promise 9: limitOf
@@ -295,13 +265,7 @@ public final class Promises01To14Test extends Promises {
     }
 
     static void promise09_noSuchAccount() {
-        InkBank bank = with(VAULT, QUILL);
-        for (int account : outside(2)) {
-            refused("account " + account, bank, INDEX, () -> bank.limitOf(account));
-        }
-        InkBank eight = with(0, 0, 0, 0, 0, 0, 0, 0);
-        same("the last of eight", eight.limitOf(7), 0);
-        refused("account 8 of eight", eight, INDEX, () -> eight.limitOf(8));
+        refusedForNoAccount((bank, account) -> bank.limitOf(account));
     }
 
     // ---- Promise 10: availableIn
@@ -337,13 +301,7 @@ public final class Promises01To14Test extends Promises {
     }
 
     static void promise10_noSuchAccount() {
-        InkBank bank = with(VAULT, QUILL);
-        for (int account : outside(2)) {
-            refused("account " + account, bank, INDEX, () -> bank.availableIn(account));
-        }
-        InkBank eight = with(0, 0, 0, 0, 0, 0, 0, 0);
-        same("the last of eight", eight.availableIn(7), 0);
-        refused("account 8 of eight", eight, INDEX, () -> eight.availableIn(8));
+        refusedForNoAccount((bank, account) -> bank.availableIn(account));
     }
 
     // ---- Promise 11: wasTouched
@@ -406,13 +364,7 @@ public final class Promises01To14Test extends Promises {
     }
 
     static void promise11_noSuchAccount() {
-        InkBank bank = with(VAULT, QUILL);
-        for (int account : outside(2)) {
-            refused("account " + account, bank, INDEX, () -> bank.wasTouched(account));
-        }
-        InkBank eight = with(0, 0, 0, 0, 0, 0, 0, 0);
-        same("the last of eight", eight.wasTouched(7), false);
-        refused("account 8 of eight", eight, INDEX, () -> eight.wasTouched(8));
+        refusedForNoAccount((bank, account) -> bank.wasTouched(account));
     }
 
     // ---- Promise 12: interestOf
@@ -452,13 +404,7 @@ public final class Promises01To14Test extends Promises {
     }
 
     static void promise12_noSuchAccount() {
-        InkBank bank = with(VAULT, QUILL);
-        for (int account : outside(2)) {
-            refused("account " + account, bank, INDEX, () -> bank.interestOf(account));
-        }
-        InkBank eight = with(0, 0, 0, 0, 0, 0, 0, 0);
-        same("the last of eight", eight.interestOf(7), 0);
-        refused("account 8 of eight", eight, INDEX, () -> eight.interestOf(8));
+        refusedForNoAccount((bank, account) -> bank.interestOf(account));
     }
 
     // ---- Promise 13: accountAtRank

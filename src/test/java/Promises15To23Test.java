@@ -224,9 +224,8 @@ public final class Promises15To23Test extends Promises {
     }
 
     static void promise22_daysOutOfRange() {
-        InkBank bank = busy();
         for (int days : outside(1, 60)) {
-            refused("endDays(" + days + ")", bank, ARGUMENT, () -> bank.endDays(days));
+            refused("endDays(" + days + ")", () -> busy(), ARGUMENT, bank -> bank.endDays(days));
         }
     }
 
@@ -276,19 +275,13 @@ public final class Promises15To23Test extends Promises {
     }
 
     static void promise23_noSuchAccount() {
-        InkBank bank = with(VAULT, QUILL);
-        for (int account : outside(2)) {
-            refused("account " + account, bank, INDEX, () -> bank.balanceAfter(account, 1));
-        }
-        InkBank eight = with(0, 0, 0, 0, 0, 0, 0, 0);
-        same("the last of eight", eight.balanceAfter(7, 1), 0);
-        refused("account 8 of eight", eight, INDEX, () -> eight.balanceAfter(8, 1));
+        refusedForNoAccount((bank, account) -> bank.balanceAfter(account, 1));
+        refusedForNoAccount((bank, account) -> bank.balanceAfter(account, 0));
     }
 
     static void promise23_daysOutOfRange() {
-        InkBank bank = busy();
         for (int days : outside(0, 60)) {
-            refused("days " + days, bank, ARGUMENT, () -> bank.balanceAfter(0, days));
+            refused("days " + days, () -> busy(), ARGUMENT, bank -> bank.balanceAfter(0, days));
         }
     }
 

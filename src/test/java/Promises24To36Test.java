@@ -1,17 +1,26 @@
+import java.util.function.Supplier;
+
 /** Promises 24 to 36, sentence by sentence: sealed transfers. */
 public final class Promises24To36Test extends Promises {
     public static void main(String[] args) throws IllegalAccessException {
         Check.runAll(Promises24To36Test.class);
     }
 
-    private interface Question {
-        Object ask(InkBank bank, int transfer);
+    /** Checks that a question is refused for each id that no sealed transfer has. */
+    private static void refusedForNoTransfer(Question question) {
+        refused("none was sealed", () -> with(QUILL, QUILL), ELEMENT, bank -> question.ask(bank, 0));
+        refused("an executed one", () -> withTransfer3(), ELEMENT, bank -> question.ask(bank, 0));
+        refused("a bounced one", () -> withTransfer3(), ELEMENT, bank -> question.ask(bank, 1));
+        refused("a cancelled one", () -> withTransfer3(), ELEMENT, bank -> question.ask(bank, 2));
+        refused("the next one", () -> withTransfer3(), ELEMENT, bank -> question.ask(bank, 4));
+        for (int id : new int[] {-1, -3, Integer.MIN_VALUE, Integer.MAX_VALUE}) {
+            refused("id " + id, () -> withTransfer3(), ELEMENT, bank -> question.ask(bank, id));
+        }
+        same("the one that is there", question.ask(withTransfer3(), 3) != null, true);
     }
 
-    /** Checks that a question is refused for each id that no sealed transfer has. */
-    private static void refusedForNone(Question question) {
-        InkBank none = with(QUILL, QUILL);
-        refused("none was sealed", none, ELEMENT, () -> question.ask(none, 0));
+    /** Returns a bank on which the transfers before the one with the id 3 are gone. */
+    private static InkBank withTransfer3() {
         InkBank bank = with(QUILL, QUILL);
         bank.deposit(0, 1);
         bank.seal(0, 1, 1, 0);
@@ -20,13 +29,7 @@ public final class Promises24To36Test extends Promises {
         bank.endDays(1);
         bank.seal(0, 1, 1, 5);
         bank.cancel(2);
-        refused("an executed one", bank, ELEMENT, () -> question.ask(bank, 0));
-        refused("a bounced one", bank, ELEMENT, () -> question.ask(bank, 1));
-        refused("a cancelled one", bank, ELEMENT, () -> question.ask(bank, 2));
-        refused("the next one", bank, ELEMENT, () -> question.ask(bank, 4));
-        for (int id : new int[] {-1, -3, Integer.MIN_VALUE, Integer.MAX_VALUE}) {
-            refused("id " + id, bank, ELEMENT, () -> question.ask(bank, id));
-        }
+        return bank;
     }
 
     // ---- Promise 24: seal
@@ -39,17 +42,8 @@ public final class Promises24To36Test extends Promises {
     }
 
     static void promise24_noSuchAccountForEither() {
-        InkBank bank = with(QUILL, VAULT);
-        for (int wrong : outside(2)) {
-            refused("sender " + wrong, bank, INDEX, () -> bank.seal(wrong, 0, 1, 1));
-            refused("receiver " + wrong, bank, INDEX, () -> bank.seal(0, wrong, 1, 1));
-        }
-        InkBank none = new InkBank();
-        refused("no account at all", none, INDEX, () -> none.seal(0, 1, 1, 1));
-        InkBank eight = with(0, 0, 0, 0, 0, 0, 0, 0);
-        same("the last of eight", eight.seal(7, 6, 1, 1), 0);
-        refused("account 8 of eight", eight, INDEX, () -> eight.seal(8, 0, 1, 1));
-        refused("account 8 of eight", eight, INDEX, () -> eight.seal(0, 8, 1, 1));
+        refusedForNoAccount((bank, account) -> bank.seal(account, 0, 1, 1));
+        refusedForNoAccount((bank, account) -> bank.seal(0, account, 1, 1));
     }
 
     static void promise24_bothAccountsTheSame() {
@@ -112,15 +106,15 @@ public final class Promises24To36Test extends Promises {
     }
 
     static void promise24_orderOfExceptions() {
-        InkBank bank = withTen();
-        refused("sender before amount", bank, INDEX, () -> bank.seal(2, 0, 0, 1));
-        refused("receiver before amount", bank, INDEX, () -> bank.seal(0, 2, 1000, 1));
-        refused("receiver before days", bank, INDEX, () -> bank.seal(0, -1, 1, 61));
-        refused("account before the same account", bank, INDEX, () -> bank.seal(2, 2, 1, 1));
-        refused("account before ten transfers", bank, INDEX, () -> bank.seal(2, 0, 1, 1));
-        refused("the same account before ten transfers", bank, ARGUMENT, () -> bank.seal(0, 0, 1, 1));
-        refused("amount before ten transfers", bank, ARGUMENT, () -> bank.seal(0, 1, 0, 1));
-        refused("days before ten transfers", bank, ARGUMENT, () -> bank.seal(0, 1, 1, -1));
+        Supplier<InkBank> ten = () -> withTen();
+        refused("sender before amount", ten, INDEX, bank -> bank.seal(2, 0, 0, 1));
+        refused("receiver before amount", ten, INDEX, bank -> bank.seal(0, 2, 1000, 1));
+        refused("receiver before days", ten, INDEX, bank -> bank.seal(0, -1, 1, 61));
+        refused("account before the same account", ten, INDEX, bank -> bank.seal(2, 2, 1, 1));
+        refused("account before ten transfers", ten, INDEX, bank -> bank.seal(2, 0, 1, 1));
+        refused("the same account before ten transfers", ten, ARGUMENT, bank -> bank.seal(0, 0, 1, 1));
+        refused("amount before ten transfers", ten, ARGUMENT, bank -> bank.seal(0, 1, 0, 1));
+        refused("days before ten transfers", ten, ARGUMENT, bank -> bank.seal(0, 1, 1, -1));
     }
 
     // ---- Promise 25: cancel
@@ -138,7 +132,7 @@ public final class Promises24To36Test extends Promises {
     }
 
     static void promise25_noSuchTransfer() {
-        refusedForNone((bank, id) -> bank.cancel(id));
+        refusedForNoTransfer((bank, id) -> bank.cancel(id));
     }
 
     static void promise25_notTwice() {
@@ -191,17 +185,19 @@ public final class Promises24To36Test extends Promises {
     }
 
     static void promise27_noSuchPosition() {
-        InkBank none = with(QUILL, QUILL);
-        refused("none was sealed", none, INDEX, () -> none.transferAt(0));
+        refused("none was sealed", () -> with(QUILL, QUILL), INDEX, bank -> bank.transferAt(0));
+        for (int position : outside(2)) {
+            refused("position " + position, () -> withTwo(), INDEX, bank -> bank.transferAt(position));
+        }
+        same("the last of ten", withTen().transferAt(9), 9);
+        refused("position 10 of ten", () -> withTen(), INDEX, bank -> bank.transferAt(10));
+    }
+
+    private static InkBank withTwo() {
         InkBank bank = with(QUILL, QUILL);
         bank.seal(0, 1, 1, 0);
         bank.seal(0, 1, 1, 3);
-        for (int position : outside(2)) {
-            refused("position " + position, bank, INDEX, () -> bank.transferAt(position));
-        }
-        InkBank ten = withTen();
-        same("the last of ten", ten.transferAt(9), 9);
-        refused("position 10 of ten", ten, INDEX, () -> ten.transferAt(10));
+        return bank;
     }
 
     // ---- Promises 28 to 30: senderOf, receiverOf, amountOf
@@ -222,7 +218,7 @@ public final class Promises24To36Test extends Promises {
     }
 
     static void promise28_noSuchTransfer() {
-        refusedForNone((bank, id) -> bank.senderOf(id));
+        refusedForNoTransfer((bank, id) -> bank.senderOf(id));
     }
 
     static void promise29_receiverOf() {
@@ -233,7 +229,7 @@ public final class Promises24To36Test extends Promises {
     }
 
     static void promise29_noSuchTransfer() {
-        refusedForNone((bank, id) -> bank.receiverOf(id));
+        refusedForNoTransfer((bank, id) -> bank.receiverOf(id));
     }
 
     static void promise30_amountOf() {
@@ -244,7 +240,7 @@ public final class Promises24To36Test extends Promises {
     }
 
     static void promise30_noSuchTransfer() {
-        refusedForNone((bank, id) -> bank.amountOf(id));
+        refusedForNoTransfer((bank, id) -> bank.amountOf(id));
     }
 
     // ---- Promise 31: daysUntilDue
@@ -263,7 +259,7 @@ public final class Promises24To36Test extends Promises {
     }
 
     static void promise31_noSuchTransfer() {
-        refusedForNone((bank, id) -> bank.daysUntilDue(id));
+        refusedForNoTransfer((bank, id) -> bank.daysUntilDue(id));
     }
 
     // ---- Promise 32: wouldBounce
@@ -368,6 +364,18 @@ public final class Promises24To36Test extends Promises {
         same("covered by that", bank.wouldBounce(2), false);
     }
 
+    static void promise32_onALaterDay() {
+        InkBank bank = with(QUILL, QUILL);
+        bank.endDays(7);
+        bank.deposit(0, 10);
+        bank.seal(0, 1, 10, 0);
+        bank.seal(0, 1, 1, 2);
+        bank.seal(1, 0, 10, 2);
+        same("today", bank.wouldBounce(0), false);
+        same("nothing is left", bank.wouldBounce(1), true);
+        same("received before", bank.wouldBounce(2), false);
+    }
+
     static void promise32_nothingChanges() {
         InkBank bank = with(VAULT, QUILL);
         bank.deposit(0, 500);
@@ -383,7 +391,7 @@ public final class Promises24To36Test extends Promises {
     }
 
     static void promise32_noSuchTransfer() {
-        refusedForNone((bank, id) -> bank.wouldBounce(id));
+        refusedForNoTransfer((bank, id) -> bank.wouldBounce(id));
     }
 
     // ---- Promise 33: bounceCount
@@ -462,21 +470,11 @@ public final class Promises24To36Test extends Promises {
     }
 
     static void promise34_noSuchAccount() {
-        InkBank bank = with(VAULT, QUILL);
-        for (int account : outside(2)) {
-            refused("account " + account, bank, INDEX, () -> bank.netOf(account));
-        }
-        InkBank eight = with(0, 0, 0, 0, 0, 0, 0, 0);
-        refused("account 8 of eight", eight, INDEX, () -> eight.netOf(8));
+        refusedForNoAccount((bank, account) -> bank.netOf(account));
     }
 
     static void promise35_noSuchAccount() {
-        InkBank bank = with(VAULT, QUILL);
-        for (int account : outside(2)) {
-            refused("account " + account, bank, INDEX, () -> bank.netByTable(account));
-        }
-        InkBank eight = with(0, 0, 0, 0, 0, 0, 0, 0);
-        refused("account 8 of eight", eight, INDEX, () -> eight.netByTable(8));
+        refusedForNoAccount((bank, account) -> bank.netByTable(account));
     }
 
     // ---- Promise 36: leadsTo
@@ -539,6 +537,16 @@ public final class Promises24To36Test extends Promises {
         same("round the ring", bank.leadsTo(4, 3), true);
     }
 
+    static void promise36_roundAllEightAgainstTheOrderOfIds() {
+        InkBank bank = with(0, 0, 0, 0, 0, 0, 0, 0);
+        for (int from = 7; from >= 0; from--) {
+            bank.seal(from, (from + 1) % 8, 1, 1);
+        }
+        for (int account = 0; account < 8; account++) {
+            same("a ring", bank.leadsTo(account, account), true);
+        }
+    }
+
     static void promise36_onlySealedOnes() {
         InkBank bank = with(QUILL, QUILL);
         bank.deposit(0, 1);
@@ -548,15 +556,8 @@ public final class Promises24To36Test extends Promises {
     }
 
     static void promise36_noSuchAccountForEither() {
-        InkBank bank = with(VAULT, QUILL);
-        for (int account : outside(2)) {
-            refused("from " + account, bank, INDEX, () -> bank.leadsTo(account, 0));
-            refused("to " + account, bank, INDEX, () -> bank.leadsTo(0, account));
-            refused("both " + account, bank, INDEX, () -> bank.leadsTo(account, account));
-        }
-        InkBank eight = with(0, 0, 0, 0, 0, 0, 0, 0);
-        same("the last of eight", eight.leadsTo(7, 7), false);
-        refused("from 8 of eight", eight, INDEX, () -> eight.leadsTo(8, 7));
-        refused("to 8 of eight", eight, INDEX, () -> eight.leadsTo(7, 8));
+        refusedForNoAccount((bank, account) -> bank.leadsTo(account, 0));
+        refusedForNoAccount((bank, account) -> bank.leadsTo(0, account));
+        refusedForNoAccount((bank, account) -> bank.leadsTo(account, account));
     }
 }

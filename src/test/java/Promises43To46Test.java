@@ -440,13 +440,13 @@ public final class Promises43To46Test extends Promises {
     }
 
     static void promise46_noneFailed() {
+        refused("at first", () -> ready(), ELEMENT, InkBank::failedCommand);
         InkBank bank = ready();
-        refused("at first", bank, ELEMENT, bank::failedCommand);
         Banks.run(bank, "wait 1");
         refused("after a program", bank, ELEMENT, bank::failedCommand);
         Check.fails("a malformed one", ARGUMENT, () -> Banks.run(bank, "wait 0;"));
         refused("after a malformed one", bank, ELEMENT, bank::failedCommand);
-        refused("a refused call is no command", bank, ARGUMENT, () -> bank.endDays(0));
+        Check.fails("a refused call is no command", ARGUMENT, () -> bank.endDays(0));
         refused("after a refused call", bank, ELEMENT, bank::failedCommand);
     }
 }

@@ -1,3 +1,5 @@
+import java.util.function.Consumer;
+
 /** Promises 47 to 49 and what the chapter 'Terms' says of undo and exceptions, sentence by sentence. */
 public final class Promises47To49Test extends Promises {
     public static void main(String[] args) throws IllegalAccessException {
@@ -28,14 +30,13 @@ public final class Promises47To49Test extends Promises {
     }
 
     /** Checks that a call is no modification: what is undone is the deposit before it. */
-    private static void noModification(String what, InkBank bank, Runnable call) {
+    private static void noModification(String what, Consumer<InkBank> call) {
+        InkBank bank = busy();
         String before = Banks.state(bank);
         bank.deposit(1, 1);
-        call.run();
+        call.accept(bank);
         same("undo after " + what, bank.undo(), 7);
         same("state after " + what, Banks.state(bank), before);
-        // So that eight can be undone ahead of each call.
-        bank.deposit(1, 2);
     }
 
     // ---- "The successful calls of ... are modifications."
@@ -93,28 +94,26 @@ public final class Promises47To49Test extends Promises {
     }
 
     static void termsUndo_nothingElse() {
-        InkBank bank = busy();
-        noModification("save", bank, bank::save);
-        noModification("type", bank, () -> bank.type('x'));
-        noModification("writeStatement", bank, () -> bank.writeStatement(0));
-        noModification("balanceAfter", bank, () -> bank.balanceAfter(0, 60));
-        noModification("wouldBounce", bank, () -> bank.wouldBounce(2));
-        noModification("netByTable", bank, () -> bank.netByTable(0));
-        noModification("leadsTo", bank, () -> bank.leadsTo(0, 1));
+        noModification("save", bank -> bank.save());
+        noModification("type", bank -> bank.type('x'));
+        noModification("writeStatement", bank -> bank.writeStatement(0));
+        noModification("balanceAfter", bank -> bank.balanceAfter(0, 60));
+        noModification("wouldBounce", bank -> bank.wouldBounce(2));
+        noModification("netByTable", bank -> bank.netByTable(0));
+        noModification("leadsTo", bank -> bank.leadsTo(0, 1));
     }
 
     static void termsUndo_noRefusedCall() {
-        InkBank bank = busy();
-        noModification("open", bank, () -> Check.fails("open", ARGUMENT, () -> bank.open(4)));
-        noModification("deposit", bank, () -> Check.fails("deposit", ARGUMENT, () -> bank.deposit(0, 0)));
-        noModification("withdraw", bank, () -> Check.fails("withdraw", STATE, () -> bank.withdraw(0, 999)));
-        noModification("setLimit", bank, () -> Check.fails("setLimit", UNSUPPORTED, () -> bank.setLimit(1, 0)));
-        noModification("seal", bank, () -> Check.fails("seal", INDEX, () -> bank.seal(0, 3, 1, 1)));
-        noModification("cancel", bank, () -> Check.fails("cancel", ELEMENT, () -> bank.cancel(3)));
-        noModification("endDays", bank, () -> Check.fails("endDays", ARGUMENT, () -> bank.endDays(61)));
-        noModification("malformed", bank, () -> Check.fails("execute", ARGUMENT, () -> Banks.run(bank, "wait 1;")));
-        noModification("failing", bank, () -> Check.fails("execute", STATE, () -> Banks.run(bank, "wait 1;wait 0")));
-        noModification("restore", bank, () -> Check.fails("restore", STATE, bank::restore));
+        noModification("open", bank -> Check.fails("open", ARGUMENT, () -> bank.open(4)));
+        noModification("deposit", bank -> Check.fails("deposit", ARGUMENT, () -> bank.deposit(0, 0)));
+        noModification("withdraw", bank -> Check.fails("withdraw", STATE, () -> bank.withdraw(0, 999)));
+        noModification("setLimit", bank -> Check.fails("setLimit", UNSUPPORTED, () -> bank.setLimit(1, 0)));
+        noModification("seal", bank -> Check.fails("seal", INDEX, () -> bank.seal(0, 3, 1, 1)));
+        noModification("cancel", bank -> Check.fails("cancel", ELEMENT, () -> bank.cancel(3)));
+        noModification("endDays", bank -> Check.fails("endDays", ARGUMENT, () -> bank.endDays(61)));
+        noModification("malformed", bank -> Check.fails("execute", ARGUMENT, () -> Banks.run(bank, "wait 1;")));
+        noModification("failing", bank -> Check.fails("execute", STATE, () -> Banks.run(bank, "wait 1;wait 0")));
+        noModification("restore", bank -> Check.fails("restore", STATE, bank::restore));
     }
 
     // ---- "The last 8 of them can be undone."
@@ -138,8 +137,8 @@ public final class Promises47To49Test extends Promises {
             bank.deposit(0, 1);
         }
         for (int i = 0; i < 3; i++) {
-            refused("deposit", bank, ARGUMENT, () -> bank.deposit(0, 0));
-            refused("withdraw", bank, STATE, () -> bank.withdraw(0, 99));
+            Check.fails("deposit", ARGUMENT, () -> bank.deposit(0, 0));
+            Check.fails("withdraw", STATE, () -> bank.withdraw(0, 99));
             Check.fails("execute", STATE, () -> Banks.run(bank, "wait 0"));
         }
         for (int left = 7; left >= 0; left--) {
@@ -150,45 +149,57 @@ public final class Promises47To49Test extends Promises {
 
     // ---- "The buffer, the error position, the failed command and the statement are not affected ..."
 
-    private static InkBank withAsides() {
+    /** Checks that a way back from a deposit leaves alone what is no part of the state. */
+    private static void asidesStay(Consumer<InkBank> back) {
         InkBank bank = with(CURRENT);
+        bank.save();
         Check.fails("malformed", ARGUMENT, () -> Banks.run(bank, "wait"));
         Check.fails("failing", STATE, () -> Banks.run(bank, "wait 1;wait 0"));
-        bank.save();
         bank.deposit(0, 12);
-        return bank;
+        bank.writeStatement(0);
+        Banks.type(bank, "wait");
+        back.accept(bank);
+        same("balance", bank.balanceOf(0), 0);
+        same("statement", Banks.written(bank), "C0:12/0");
+        same("errorPosition", bank.errorPosition(), 4);
+        same("failedCommand", bank.failedCommand(), 1);
+        same("buffer", bank.type(' '), 5);
+        bank.type('3');
+        same("buffer as a program", bank.execute(), 1);
+        same("day", bank.day(), 3);
     }
 
     static void termsUndo_asidesStayAtUndo() {
-        InkBank bank = withAsides();
-        Check.fails("malformed", ARGUMENT, () -> Banks.run(bank, "wait x"));
-        Check.fails("failing", STATE, () -> Banks.run(bank, "wait 1;wait 1;wait 0"));
-        bank.writeStatement(0);
-        Banks.type(bank, "wait");
-        bank.undo();
-        same("balance", bank.balanceOf(0), 0);
-        same("statement", Banks.written(bank), "C0:12/0");
-        same("errorPosition", bank.errorPosition(), 5);
-        same("failedCommand", bank.failedCommand(), 2);
-        same("buffer", bank.type(' '), 5);
-        Banks.type(bank, "3");
-        same("buffer as a program", bank.execute(), 1);
+        asidesStay(InkBank::undo);
     }
 
     static void termsUndo_asidesStayAtRestore() {
-        InkBank bank = withAsides();
-        Check.fails("malformed", ARGUMENT, () -> Banks.run(bank, "wait x"));
-        Check.fails("failing", STATE, () -> Banks.run(bank, "wait 1;wait 1;wait 0"));
+        asidesStay(InkBank::restore);
+    }
+
+    /** Checks that a way back does not forget what came after the state to which it leads. */
+    private static void asidesAreTheLatest(Consumer<InkBank> back) {
+        InkBank bank = with(CURRENT);
+        Check.fails("malformed", ARGUMENT, () -> Banks.run(bank, "wait"));
+        Check.fails("failing", STATE, () -> Banks.run(bank, "wait 1;wait 0"));
         bank.writeStatement(0);
-        Banks.type(bank, "wait");
-        bank.restore();
-        same("balance", bank.balanceOf(0), 0);
+        bank.save();
+        bank.deposit(0, 12);
+        Check.fails("malformed again", ARGUMENT, () -> Banks.run(bank, "x"));
+        Check.fails("failing again", STATE, () -> Banks.run(bank, "wait 0"));
+        bank.writeStatement(0);
+        back.accept(bank);
         same("statement", Banks.written(bank), "C0:12/0");
-        same("errorPosition", bank.errorPosition(), 5);
-        same("failedCommand", bank.failedCommand(), 2);
-        same("buffer", bank.type(' '), 5);
-        Banks.type(bank, "3");
-        same("buffer as a program", bank.execute(), 1);
+        same("errorPosition", bank.errorPosition(), 0);
+        same("failedCommand", bank.failedCommand(), 0);
+    }
+
+    static void termsUndo_laterAsidesStayAtUndo() {
+        asidesAreTheLatest(InkBank::undo);
+    }
+
+    static void termsUndo_laterAsidesStayAtRestore() {
+        asidesAreTheLatest(InkBank::restore);
     }
 
     static void termsUndo_anExecutedProgramIsNotTypedAgain() {
@@ -221,7 +232,7 @@ public final class Promises47To49Test extends Promises {
     // ---- "A method that throws an exception changes nothing, except that execute empties the buffer."
 
     static void termsExceptions_executeAloneEmptiesTheBuffer() {
-        InkBank bank = busy();
+        InkBank bank = with(QUILL);
         Banks.type(bank, "wait 0");
         refused("open", bank, ARGUMENT, () -> bank.open(4));
         refused("type", bank, ARGUMENT, () -> bank.type((char) 31));

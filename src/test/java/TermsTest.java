@@ -44,12 +44,13 @@ public final class TermsTest extends Promises {
     }
 
     static void termsAccounts_balanceAndLimitAre0AtFirst() {
-        InkBank bank = with(QUILL, CURRENT);
+        InkBank bank = with(QUILL);
+        same("the first", Banks.statement(bank, 0), "Q0:0/0");
+        bank.save();
+        bank.open(CURRENT);
         bank.setLimit(1, 70);
         bank.withdraw(1, 7);
-        bank.undo();
-        bank.undo();
-        bank.undo();
+        bank.restore();
         same("number of the one in its place", bank.open(QUILL), 1);
         same("balance", bank.balanceOf(1), 0);
         same("limit", bank.limitOf(1), 0);
@@ -296,15 +297,23 @@ public final class TermsTest extends Promises {
     static void termsTransfers_tenAtMost() {
         InkBank bank = withTen();
         refused("the eleventh", bank, STATE, () -> bank.seal(0, 1, 1, 5));
+        same("transferCount", bank.transferCount(), 10);
+    }
+
+    static void termsTransfers_tenAgainInPlaceOfACancelledOne() {
+        InkBank bank = withTen();
         bank.cancel(9);
-        same("in place of a cancelled one, no id is left out", bank.seal(0, 1, 1, 5), 10);
-        refused("the eleventh again", bank, STATE, () -> bank.seal(0, 1, 1, 5));
+        same("no id is left out", bank.seal(0, 1, 1, 5), 10);
+        refused("the eleventh", bank, STATE, () -> bank.seal(0, 1, 1, 5));
+    }
+
+    static void termsTransfers_tenAgainInPlaceOfExecutedAndBouncedOnes() {
+        InkBank bank = withTen();
         same("one is executed and one bounces", bank.endDays(1), 1);
         same("bounceCount", bank.bounceCount(), 1);
-        same("in place of the executed one", bank.seal(0, 1, 1, 4), 11);
-        same("in place of the bounced one", bank.seal(0, 1, 1, 4), 12);
-        refused("the eleventh at last", bank, STATE, () -> bank.seal(0, 1, 1, 4));
-        same("transferCount", bank.transferCount(), 10);
+        same("in place of the executed one", bank.seal(0, 1, 1, 4), 10);
+        same("in place of the bounced one", bank.seal(0, 1, 1, 4), 11);
+        refused("the eleventh", bank, STATE, () -> bank.seal(0, 1, 1, 4));
     }
 
     static void termsTransfers_idsFrom0EachThePreviousPlus1() {
